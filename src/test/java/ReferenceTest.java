@@ -14,12 +14,13 @@ public final class ReferenceTest {
 
     public static void main(String[] args) {
         Check all = new Check();
-        for (int seed = 1; seed <= 1500; seed++) {
+        for (int seed = 1; seed <= 600; seed++) {
             new ReferenceTest(seed).small(all);
         }
-        for (int seed = 2001; seed <= 2150; seed++) {
+        for (int seed = 2001; seed <= 2060; seed++) {
             new ReferenceTest(seed).large(all);
         }
+        new ReferenceTest(3001).largest(all);
         all.end();
     }
 
@@ -90,6 +91,28 @@ public final class ReferenceTest {
         budget(all, 1 + below(1_000_000));
         compare(all);
         all.due(name + "run", x.run(), y.run());
+        compare(all);
+    }
+
+    /** The longest numbers that can come up: all voters, purses as full as can be, all paying in each round. */
+    private void largest(Check all) {
+        budget(all, 10_000_000);
+        for (int v = 0; v < 48; v++) {
+            all.due(name + "voter", x.voter(v), y.voter(v));
+        }
+        for (int p = 0; p < 16; p++) {
+            project(all, p, 600_000 + p);
+            for (int v = 0; v < 48; v++) {
+                approve(all, v, p, true);
+            }
+        }
+        raise(all, 100_000, 100);
+        compare(all);
+        project(all, 15, 1_000_000);
+        for (int v = 1; v < 48; v++) {
+            approve(all, v, 15, false);
+        }
+        raise(all, 1, 100);
         compare(all);
     }
 
