@@ -32,7 +32,8 @@ final class Check {
     }
 
     void end() {
-        System.out.println(wrong == 0 ? done + " answers are as due" : wrong + " of " + done + " answers are not as due");
+        String asDue = done + " answers are as due";
+        System.out.println(wrong == 0 ? asDue : wrong + " of " + done + " answers are not as due");
         if (wrong != 0) {
             System.exit(1);
         }
