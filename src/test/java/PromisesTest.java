@@ -37,69 +37,32 @@ public final class PromisesTest {
         test.check.end();
     }
 
-    private static SharesDesk town(int budget, int voters) {
-        SharesDesk x = new SharesDesk();
-        x.budget(budget);
-        for (int v = 0; v < voters; v++) {
-            x.voter(v);
-        }
-        return x;
-    }
-
-    private static void want(SharesDesk x, int p, int cost, int... voters) {
-        x.project(p, cost);
-        for (int v : voters) {
-            x.approve(v, p, true);
-        }
-    }
-
-    /** Purses of 10; 0 and 1 empty theirs for projects 0 and 1, so that 2 is paid by voter 3 alone. */
-    private static SharesDesk emptied() {
-        SharesDesk x = town(40, 4);
-        want(x, 0, 10, 0, 1);
-        want(x, 1, 10, 0, 1);
-        want(x, 2, 10, 0, 3);
-        want(x, 3, 25, 1, 2);
-        x.run();
-        return x;
-    }
-
-    /** Purses of 10; 0 and 1 pay 5 for project 0, then all of the rest for 1, and the others 7. */
-    private static SharesDesk uneven() {
-        SharesDesk x = town(40, 4);
-        want(x, 0, 10, 0, 1);
-        want(x, 1, 24, 0, 1, 2, 3);
-        want(x, 12, 13, 0, 2);
-        x.run();
-        return x;
-    }
-
     private void promise1NewObject() {
-        SharesDesk x = new SharesDesk();
+        Desk x = new Desk();
         check.due("1 spent", x.spent(), 0);
         check.due("1 chosen", x.chosen(0), -1);
         for (int i = 0; i < 48; i++) {
-            check.due("1 purse", Check.purse(x, i), "0/0");
-            check.due("1 paid", Check.paid(x, i, 0), "0/0");
-            check.due("1 rate", Check.rate(x, i), "0/0");
-            check.due("1 missing", Check.missing(x, i), "0/0");
+            check.due("1 purse", x.purse(i), "0/0");
+            check.due("1 paid", x.paid(i, 0), "0/0");
+            check.due("1 rate", x.rate(i), "0/0");
+            check.due("1 missing", x.missing(i), "0/0");
             check.due("1 served", x.served(i), 0);
             check.due("1 receipt", x.receipt(i, 0), -1);
             check.due("1 drop", x.drop(i), false);
             check.due("1 strike", x.strike(i), false);
             check.due("1 approve", x.approve(i, 0, true), false);
         }
-        check.due("1 passedOver", Check.passedOver(x, 1), "0");
+        check.due("1 passedOver", x.passedOver(1), "0");
         check.due("1 run", x.run(), 0);
         x.voter(0);
         x.run();
-        check.due("1 the first budget", Check.purse(x, 0), "1/1");
-        SharesDesk other = new SharesDesk();
+        check.due("1 the first budget", x.purse(0), "1/1");
+        Desk other = new Desk();
         check.due("1 another object has its own voters", other.voter(0), true);
     }
 
     private void promise2Project() {
-        SharesDesk x = new SharesDesk();
+        Desk x = new Desk();
         check.due("2 least", x.project(0, 1), true);
         check.due("2 most", x.project(15, 1_000_000), true);
         check.due("2 project -1", x.project(-1, 1), false);
@@ -111,20 +74,20 @@ public final class PromisesTest {
             check.due("2 far project", x.project(p, 1), false);
         }
         x.run();
-        check.due("2 cost of 0", Check.missing(x, 0), "1/1");
-        check.due("2 cost of 15", Check.missing(x, 15), "1000000/1");
-        check.due("2 refused, not there", Check.missing(x, 1), "0/0");
+        check.due("2 cost of 0", x.missing(0), "1/1");
+        check.due("2 cost of 15", x.missing(15), "1000000/1");
+        check.due("2 refused, not there", x.missing(1), "0/0");
         check.due("2 another cost", x.project(0, 7), true);
         check.due("2 refused cost", x.project(0, 0), false);
         check.due("2 refused cost", x.project(0, 1_000_001), false);
         x.run();
-        check.due("2 another cost", Check.missing(x, 0), "7/1");
+        check.due("2 another cost", x.missing(0), "7/1");
     }
 
     private void promise3Drop() {
-        SharesDesk x = town(10, 2);
-        want(x, 0, 4, 0, 1);
-        want(x, 15, 5, 0, 1);
+        Desk x = Towns.town(10, 2);
+        Towns.want(x, 0, 4, 0, 1);
+        Towns.want(x, 15, 5, 0, 1);
         check.due("3 run", x.run(), 2);
         check.due("3 drop", x.drop(15), true);
         check.due("3 drop again", x.drop(15), false);
@@ -138,29 +101,29 @@ public final class PromisesTest {
         check.due("3 served", x.served(0), 1);
         check.due("3 comes again", x.project(15, 3), true);
         check.due("3 approvals stayed", x.run(), 2);
-        check.due("3 paid", Check.paid(x, 1, 15), "3/2");
+        check.due("3 paid", x.paid(1, 15), "3/2");
     }
 
     private void promise4Budget() {
-        SharesDesk x = town(1, 1);
+        Desk x = Towns.town(1, 1);
         check.due("4 most", x.budget(10_000_000), true);
         x.run();
-        check.due("4 purse", Check.purse(x, 0), "10000000/1");
+        check.due("4 purse", x.purse(0), "10000000/1");
         check.due("4 over most", x.budget(10_000_001), false);
         check.due("4 nothing", x.budget(0), false);
         for (int amount : new int[] {Integer.MIN_VALUE, -1, Integer.MAX_VALUE}) {
             check.due("4 far", x.budget(amount), false);
         }
         x.run();
-        check.due("4 refused changes nothing", Check.purse(x, 0), "10000000/1");
+        check.due("4 refused changes nothing", x.purse(0), "10000000/1");
         check.due("4 least", x.budget(1), true);
-        check.due("4 the result stays", Check.purse(x, 0), "10000000/1");
+        check.due("4 the result stays", x.purse(0), "10000000/1");
         x.run();
-        check.due("4 purse", Check.purse(x, 0), "1/1");
+        check.due("4 purse", x.purse(0), "1/1");
     }
 
     private void promise5Voter() {
-        SharesDesk x = new SharesDesk();
+        Desk x = new Desk();
         x.budget(10);
         check.due("5 first", x.voter(0), true);
         check.due("5 last", x.voter(47), true);
@@ -172,7 +135,7 @@ public final class PromisesTest {
         }
         x.project(0, 5);
         check.due("5 approving of nothing", x.run(), 0);
-        check.due("5 n is 2", Check.purse(x, 47), "5/1");
+        check.due("5 n is 2", x.purse(47), "5/1");
         x.approve(47, 0, true);
         check.due("5 there", x.voter(47), false);
         check.due("5 refused changes nothing", x.run(), 1);
@@ -182,8 +145,8 @@ public final class PromisesTest {
     }
 
     private void promise6Strike() {
-        SharesDesk x = town(10, 2);
-        want(x, 0, 5, 1);
+        Desk x = Towns.town(10, 2);
+        Towns.want(x, 0, 5, 1);
         check.due("6 run", x.run(), 1);
         check.due("6 strike", x.strike(1), true);
         check.due("6 strike again", x.strike(1), false);
@@ -194,15 +157,15 @@ public final class PromisesTest {
         for (int v : FAR) {
             check.due("6 strike far", x.strike(v), false);
         }
-        check.due("6 the result stays", Check.paid(x, 1, 0), "5/1");
+        check.due("6 the result stays", x.paid(1, 0), "5/1");
         check.due("6 run without", x.run(), 0);
-        check.due("6 was not there", Check.purse(x, 1), "0/0");
-        check.due("6 all is the other's", Check.purse(x, 0), "10/1");
-        check.due("6 missing", Check.missing(x, 0), "5/1");
+        check.due("6 was not there", x.purse(1), "0/0");
+        check.due("6 all is the other's", x.purse(0), "10/1");
+        check.due("6 missing", x.missing(0), "5/1");
     }
 
     private void promise7Approve() {
-        SharesDesk x = town(10, 1);
+        Desk x = Towns.town(10, 1);
         check.due("7 p needn't be there", x.approve(0, 15, true), true);
         check.due("7 p 0", x.approve(0, 0, true), true);
         check.due("7 p -1", x.approve(0, -1, true), false);
@@ -229,122 +192,122 @@ public final class PromisesTest {
     }
 
     private void promise8RunOrder() {
-        SharesDesk x = town(60, 6);
-        want(x, 3, 6, 0, 1);
-        want(x, 4, 4, 2, 3);
-        want(x, 5, 2, 4);
-        want(x, 6, 2, 5);
-        want(x, 2, 2, 4);
+        Desk x = Towns.town(60, 6);
+        Towns.want(x, 3, 6, 0, 1);
+        Towns.want(x, 4, 4, 2, 3);
+        Towns.want(x, 5, 2, 4);
+        Towns.want(x, 6, 2, 5);
+        Towns.want(x, 2, 2, 4);
         check.due("8 run", x.run(), 5);
         int[] order = {2, 5, 6, 4, 3};
         for (int i = 0; i < order.length; i++) {
             check.due("8 least rate, then cost, then number " + i, x.chosen(i), order[i]);
         }
-        SharesDesk none = new SharesDesk();
+        Desk none = new Desk();
         none.project(0, 1);
         check.due("8 no voters", none.run(), 0);
         check.due("8 no voters", none.chosen(0), -1);
     }
 
     private void promise8RunUneven() {
-        SharesDesk x = uneven();
+        Desk x = Towns.uneven();
         check.due("8 chosen", x.chosen(0), 0);
         check.due("8 chosen", x.chosen(1), 1);
         check.due("8 chosen", x.chosen(2), -1);
-        check.due("8 rate", Check.rate(x, 1), "7/1");
-        SharesDesk dear = town(30, 3);
-        want(dear, 0, 8, 0);
-        want(dear, 1, 22, 0, 1, 2);
-        want(dear, 2, 31, 0, 1, 2);
+        check.due("8 rate", x.rate(1), "7/1");
+        Desk dear = Towns.town(30, 3);
+        Towns.want(dear, 0, 8, 0);
+        Towns.want(dear, 1, 22, 0, 1, 2);
+        Towns.want(dear, 2, 31, 0, 1, 2);
         check.due("8 the cheaper share first, the others too dear then", dear.run(), 1);
-        check.due("8 the cheaper share", Check.rate(dear, 1), "22/3");
-        SharesDesk just = town(20, 2);
-        want(just, 0, 10, 0);
-        want(just, 1, 10, 1);
+        check.due("8 the cheaper share", dear.rate(1), "22/3");
+        Desk just = Towns.town(20, 2);
+        Towns.want(just, 0, 10, 0);
+        Towns.want(just, 1, 10, 1);
         check.due("8 all that is there", just.run(), 2);
-        check.due("8 nothing left", Check.purse(just, 1), "0/1");
+        check.due("8 nothing left", just.purse(1), "0/1");
         just.project(1, 11);
         check.due("8 one too dear", just.run(), 1);
     }
 
     private void promise8RunKeepsItsTown() {
-        SharesDesk x = uneven();
-        String receipt = Check.receipt(x, 3);
+        Desk x = Towns.uneven();
+        String receipt = x.receipt(3);
         x.budget(99);
         x.strike(3);
         x.drop(1);
         x.project(12, 99);
         x.approve(2, 12, false);
         x.voter(9);
-        check.due("8 receipt stays", Check.receipt(x, 3), receipt);
+        check.due("8 receipt stays", x.receipt(3), receipt);
         check.due("8 spent stays", x.spent(), 34);
-        check.due("8 missing stays", Check.missing(x, 12), "10/1");
-        check.due("8 rate stays", Check.rate(x, 1), "7/1");
+        check.due("8 missing stays", x.missing(12), "10/1");
+        check.due("8 rate stays", x.rate(1), "7/1");
         check.due("8 served stays", x.served(3), 1);
-        check.due("8 not there then", Check.purse(x, 9), "0/0");
+        check.due("8 not there then", x.purse(9), "0/0");
         x.run();
-        check.due("8 the next result", Check.purse(x, 9), "99/4");
+        check.due("8 the next result", x.purse(9), "99/4");
     }
 
     private void promise9Raise() {
-        SharesDesk x = town(10, 3);
-        want(x, 0, 4, 0);
-        want(x, 1, 7, 1, 2);
-        check.due("9 the first step overspends", Check.raise(x, 1, 20), "0");
+        Desk x = Towns.town(10, 3);
+        Towns.want(x, 0, 4, 0);
+        Towns.want(x, 1, 7, 1, 2);
+        check.due("9 the first step overspends", x.raise(1, 20), "0");
         check.due("9 nothing", x.spent(), 0);
         x.project(0, 3);
-        check.due("9 no step overspends", Check.raise(x, 1, 20), "20");
+        check.due("9 no step overspends", x.raise(1, 20), "20");
         check.due("9 both", x.spent(), 10);
-        check.due("9 purse with the raise", Check.purse(x, 0), "61/3");
-        check.due("9 most is 0", Check.raise(x, 5, 0), "0");
+        check.due("9 purse with the raise", x.purse(0), "61/3");
+        check.due("9 most is 0", x.raise(5, 0), "0");
         check.due("9 as run", x.spent(), 3);
         x.project(2, 1_000_000);
-        check.due("9 what nobody wants is never bought", Check.raise(x, 100_000, 100), "100");
-        check.due("9 most times step", Check.purse(x, 0), "30000001/3");
-        SharesDesk none = new SharesDesk();
-        check.due("9 no voters", Check.raise(none, 1, 4), "4");
+        check.due("9 what nobody wants is never bought", x.raise(100_000, 100), "100");
+        check.due("9 most times step", x.purse(0), "30000001/3");
+        Desk none = new Desk();
+        check.due("9 no voters", none.raise(1, 4), "4");
         check.due("9 no voters", none.chosen(0), -1);
     }
 
     /** Steps of 2: at 2 project 1 comes in, at 4 project 2, which is too much. */
     private void promise9RaiseStopsAtFirst() {
-        SharesDesk x = town(12, 3);
-        want(x, 0, 1, 0);
-        want(x, 1, 6, 1);
-        want(x, 2, 8, 2);
+        Desk x = Towns.town(12, 3);
+        Towns.want(x, 0, 1, 0);
+        Towns.want(x, 1, 6, 1);
+        Towns.want(x, 2, 8, 2);
         check.due("9 run", x.run(), 1);
-        check.due("9 steps", Check.raise(x, 2, 50), "1");
+        check.due("9 steps", x.raise(2, 50), "1");
         check.due("9 chosen", x.chosen(1), 1);
         check.due("9 chosen", x.chosen(2), -1);
         check.due("9 spent", x.spent(), 7);
-        check.due("9 purse", Check.purse(x, 0), "5/1");
-        check.due("9 missing", Check.missing(x, 2), "2/1");
-        check.due("9 at most", Check.raise(x, 1, 3), "3");
-        check.due("9 purse", Check.purse(x, 0), "6/1");
+        check.due("9 purse", x.purse(0), "5/1");
+        check.due("9 missing", x.missing(2), "2/1");
+        check.due("9 at most", x.raise(1, 3), "3");
+        check.due("9 purse", x.purse(0), "6/1");
         x.budget(15);
-        check.due("9 just the budget isn't more", Check.raise(x, 1, 9), "9");
+        check.due("9 just the budget isn't more", x.raise(1, 9), "9");
         check.due("9 spent", x.spent(), 15);
         x.budget(10);
-        want(x, 3, 4, 0);
+        Towns.want(x, 3, 4, 0);
         x.strike(2);
-        check.due("9 over the budget by one", Check.raise(x, 1, 9), "0");
+        check.due("9 over the budget by one", x.raise(1, 9), "0");
     }
 
     private void promise9RaiseWrong() {
-        SharesDesk x = uneven();
+        Desk x = Towns.uneven();
         x.budget(50);
         int[][] wrong = {{0, 1}, {-1, 1}, {100_001, 1}, {1, -1}, {1, 101}, {0, 101},
             {Integer.MIN_VALUE, 1}, {Integer.MAX_VALUE, 1}, {1, Integer.MIN_VALUE}, {1, Integer.MAX_VALUE}};
         for (int[] call : wrong) {
-            check.due("9 raise " + call[0] + " " + call[1], Check.raise(x, call[0], call[1]), REFUSED);
+            check.due("9 raise " + call[0] + " " + call[1], x.raise(call[0], call[1]), REFUSED);
         }
-        check.due("9 refused changes nothing", Check.receipt(x, 2), "01 7;=3.");
-        check.due("9 edge", Check.raise(new SharesDesk(), 100_000, 100), "100");
-        check.due("9 edge", Check.raise(new SharesDesk(), 1, 0), "0");
+        check.due("9 refused changes nothing", x.receipt(2), "01 7;=3.");
+        check.due("9 edge", new Desk().raise(100_000, 100), "100");
+        check.due("9 edge", new Desk().raise(1, 0), "0");
     }
 
     private void promise10Chosen() {
-        SharesDesk x = emptied();
+        Desk x = Towns.emptied();
         int[] due = {0, 1, 2, -1};
         for (int i = 0; i < due.length; i++) {
             check.due("10 chosen " + i, x.chosen(i), due[i]);
@@ -353,9 +316,9 @@ public final class PromisesTest {
         for (int i : FAR) {
             check.due("10 chosen far", x.chosen(i), -1);
         }
-        SharesDesk all = town(10_000_000, 48);
+        Desk all = Towns.town(10_000_000, 48);
         for (int p = 0; p < 16; p++) {
-            want(all, p, 100 - p, 0, 47);
+            Towns.want(all, p, 100 - p, 0, 47);
         }
         check.due("10 all", all.run(), 16);
         for (int i = 0; i < 16; i++) {
@@ -369,10 +332,10 @@ public final class PromisesTest {
     }
 
     private void promise11Spent() {
-        check.due("11 spent", emptied().spent(), 30);
-        SharesDesk x = town(10_000_000, 1);
+        check.due("11 spent", Towns.emptied().spent(), 30);
+        Desk x = Towns.town(10_000_000, 1);
         for (int p = 0; p < 16; p++) {
-            want(x, p, 1_000_000, 0);
+            Towns.want(x, p, 1_000_000, 0);
         }
         check.due("11 run", x.run(), 10);
         check.due("11 spent", x.spent(), 10_000_000);
@@ -384,37 +347,22 @@ public final class PromisesTest {
     }
 
     private void promise12Purse() {
-        SharesDesk x = town(14, 6);
-        want(x, 0, 1, 0, 1);
+        Desk x = Towns.town(14, 6);
+        Towns.want(x, 0, 1, 0, 1);
         x.run();
-        check.due("12 lowest terms", Check.purse(x, 5), "7/3");
-        check.due("12 lowest terms", Check.purse(x, 0), "11/6");
-        check.due("12 empty", Check.purse(emptied(), 0), "0/1");
-        check.due("12 not there", Check.purse(x, 6), "0/0");
+        check.due("12 lowest terms", x.purse(5), "7/3");
+        check.due("12 lowest terms", x.purse(0), "11/6");
+        check.due("12 empty", Towns.emptied().purse(0), "0/1");
+        check.due("12 not there", x.purse(6), "0/0");
         for (int far : FAR) {
-            check.due("12 far voter", Check.purse(x, far), "0/0");
+            check.due("12 far voter", x.purse(far), "0/0");
             check.due("12 no such part", x.purse(0, far, 0), 0);
             check.due("12 no such word", x.purse(0, 0, far), 0);
             check.due("12 no such word", x.purse(0, 1, far), 0);
         }
         check.due("12 part 2", x.purse(0, 2, 0), 0);
         check.due("12 word 1", x.purse(0, 0, 1), 0);
-        check.due("12 voter 48", Check.purse(x, 48), "0/0");
-    }
-
-    /** Project i, of cost 1, is wanted by the first COUNTS[i] voters: voter 0 pays a part of each. */
-    private static final int[] COUNTS = {43, 41, 37, 31, 29, 23, 19, 17, 13, 11, 7, 5, 3, 32, 27, 25};
-
-    private static SharesDesk primes() {
-        SharesDesk x = town(10_000_000, 47);
-        for (int p = 0; p < COUNTS.length; p++) {
-            x.project(p, 1);
-            for (int v = 0; v < COUNTS[p]; v++) {
-                x.approve(v, p, true);
-            }
-        }
-        x.run();
-        return x;
+        check.due("12 voter 48", x.purse(48), "0/0");
     }
 
     private static Reference.Fraction part(int top, int bottom) {
@@ -422,12 +370,12 @@ public final class PromisesTest {
     }
 
     private void promise12LongPurse() {
-        SharesDesk x = primes();
+        Desk x = Towns.primes();
         Reference.Fraction left = part(10_000_000, 47);
-        for (int count : COUNTS) {
+        for (int count : Towns.COUNTS) {
             left = left.minus(part(1, count));
         }
-        check.due("12 long", Check.purse(x, 0), left.words());
+        check.due("12 long", x.purse(0), left.words());
         check.due("12 more than one word", left.bottom().bitLength() > 64 ? 1 : 0, 1);
         check.due("12 word 2", x.purse(0, 0, 2), left.top().shiftRight(64).intValue());
         check.due("12 word 2", x.purse(0, 1, 2), left.bottom().shiftRight(64).intValue());
@@ -435,75 +383,75 @@ public final class PromisesTest {
     }
 
     private void promise13Paid() {
-        SharesDesk x = uneven();
-        check.due("13 the rate", Check.paid(x, 0, 0), "5/1");
-        check.due("13 all it has", Check.paid(x, 0, 1), "5/1");
-        check.due("13 the rate", Check.paid(x, 3, 1), "7/1");
-        check.due("13 no supporter", Check.paid(x, 3, 0), "0/1");
-        check.due("13 not chosen", Check.paid(x, 0, 12), "0/1");
-        check.due("13 not there", Check.paid(x, 0, 5), "0/1");
-        check.due("13 project -1", Check.paid(x, 0, -1), "0/1");
-        check.due("13 project 16", Check.paid(x, 0, 16), "0/1");
-        check.due("13 no voter", Check.paid(x, 4, 0), "0/0");
+        Desk x = Towns.uneven();
+        check.due("13 the rate", x.paid(0, 0), "5/1");
+        check.due("13 all it has", x.paid(0, 1), "5/1");
+        check.due("13 the rate", x.paid(3, 1), "7/1");
+        check.due("13 no supporter", x.paid(3, 0), "0/1");
+        check.due("13 not chosen", x.paid(0, 12), "0/1");
+        check.due("13 not there", x.paid(0, 5), "0/1");
+        check.due("13 project -1", x.paid(0, -1), "0/1");
+        check.due("13 project 16", x.paid(0, 16), "0/1");
+        check.due("13 no voter", x.paid(4, 0), "0/0");
         for (int far : FAR) {
-            check.due("13 far project", Check.paid(x, 0, far), "0/1");
-            check.due("13 far voter", Check.paid(x, far, 0), "0/0");
+            check.due("13 far project", x.paid(0, far), "0/1");
+            check.due("13 far voter", x.paid(far, 0), "0/0");
             check.due("13 no such part", x.paid(0, 0, far, 0), 0);
             check.due("13 no such word", x.paid(0, 0, 0, far), 0);
         }
         check.due("13 part 2", x.paid(0, 0, 2, 0), 0);
-        SharesDesk y = emptied();
-        check.due("13 with an empty purse", Check.paid(y, 0, 2), "0/1");
-        check.due("13 alone", Check.paid(y, 3, 2), "10/1");
-        check.due("13 part", Check.paid(primes(), 0, 13), "1/32");
+        Desk y = Towns.emptied();
+        check.due("13 with an empty purse", y.paid(0, 2), "0/1");
+        check.due("13 alone", y.paid(3, 2), "10/1");
+        check.due("13 part", Towns.primes().paid(0, 13), "1/32");
     }
 
     private void promise14Rate() {
-        SharesDesk x = uneven();
-        check.due("14 rate", Check.rate(x, 0), "5/1");
-        check.due("14 rate", Check.rate(x, 1), "7/1");
-        check.due("14 not chosen", Check.rate(x, 12), "0/0");
-        check.due("14 not there", Check.rate(x, 2), "0/0");
+        Desk x = Towns.uneven();
+        check.due("14 rate", x.rate(0), "5/1");
+        check.due("14 rate", x.rate(1), "7/1");
+        check.due("14 not chosen", x.rate(12), "0/0");
+        check.due("14 not there", x.rate(2), "0/0");
         for (int far : FAR) {
-            check.due("14 far", Check.rate(x, far), "0/0");
+            check.due("14 far", x.rate(far), "0/0");
             check.due("14 no such part", x.rate(0, far, 0), 0);
             check.due("14 no such word", x.rate(0, 0, far), 0);
         }
         check.due("14 part 2", x.rate(0, 2, 0), 0);
-        check.due("14 alone, others having nothing", Check.rate(emptied(), 2), "10/1");
-        check.due("14 lowest terms", Check.rate(primes(), 14), "1/27");
-        SharesDesk y = town(12, 2);
-        want(y, 0, 12, 0, 1);
+        check.due("14 alone, others having nothing", Towns.emptied().rate(2), "10/1");
+        check.due("14 lowest terms", Towns.primes().rate(14), "1/27");
+        Desk y = Towns.town(12, 2);
+        Towns.want(y, 0, 12, 0, 1);
         y.run();
-        check.due("14 as much as the largest purse", Check.rate(y, 0), "6/1");
+        check.due("14 as much as the largest purse", y.rate(0), "6/1");
     }
 
     private void promise15Missing() {
-        SharesDesk x = uneven();
-        check.due("15 missing", Check.missing(x, 12), "10/1");
-        check.due("15 chosen", Check.missing(x, 0), "0/0");
-        check.due("15 not there", Check.missing(x, 2), "0/0");
+        Desk x = Towns.uneven();
+        check.due("15 missing", x.missing(12), "10/1");
+        check.due("15 chosen", x.missing(0), "0/0");
+        check.due("15 not there", x.missing(2), "0/0");
         for (int far : FAR) {
-            check.due("15 far", Check.missing(x, far), "0/0");
+            check.due("15 far", x.missing(far), "0/0");
             check.due("15 no such part", x.missing(12, far, 0), 0);
             check.due("15 no such word", x.missing(12, 0, far), 0);
         }
         check.due("15 part 2", x.missing(12, 2, 0), 0);
-        SharesDesk y = town(10, 3);
-        want(y, 0, 7, 0, 1);
-        want(y, 1, 1_000_000);
+        Desk y = Towns.town(10, 3);
+        Towns.want(y, 0, 7, 0, 1);
+        Towns.want(y, 1, 1_000_000);
         y.run();
-        check.due("15 a part", Check.missing(y, 0), "1/3");
-        check.due("15 no supporters", Check.missing(y, 1), "1000000/1");
-        SharesDesk none = new SharesDesk();
+        check.due("15 a part", y.missing(0), "1/3");
+        check.due("15 no supporters", y.missing(1), "1000000/1");
+        Desk none = new Desk();
         none.project(4, 9);
-        check.due("15 no result yet", Check.missing(none, 4), "0/0");
+        check.due("15 no result yet", none.missing(4), "0/0");
         none.run();
-        check.due("15 no voters", Check.missing(none, 4), "9/1");
+        check.due("15 no voters", none.missing(4), "9/1");
     }
 
     private void promise16Served() {
-        SharesDesk x = emptied();
+        Desk x = Towns.emptied();
         int[] due = {3, 2, 0, 1, 0};
         for (int v = 0; v < due.length; v++) {
             check.due("16 served " + v, x.served(v), due[v]);
@@ -521,92 +469,92 @@ public final class PromisesTest {
      * enough left for its part of one more of the m. So 0 is due for every town, but not for towns that are like it.
      */
     private void promise17PassedOver() {
-        SharesDesk x = town(8, 8);
-        want(x, 5, 3, 0, 1);
+        Desk x = Towns.town(8, 8);
+        Towns.want(x, 5, 3, 0, 1);
         check.due("17 run", x.run(), 0);
-        check.due("17 two of eight for 3 of 8", Check.passedOver(x, 1), "0");
+        check.due("17 two of eight for 3 of 8", x.passedOver(1), "0");
         x.project(5, 2);
-        check.due("17 the cost as it was then", Check.passedOver(x, 1), "0");
+        check.due("17 the cost as it was then", x.passedOver(1), "0");
         x.project(5, 3);
         x.budget(12);
-        check.due("17 the budget as it was then", Check.passedOver(x, 1), "0");
+        check.due("17 the budget as it was then", x.passedOver(1), "0");
         x.budget(8);
         x.approve(2, 5, true);
-        check.due("17 approvals as they were then", Check.passedOver(x, 1), "0");
+        check.due("17 approvals as they were then", x.passedOver(1), "0");
         for (int v = 2; v < 8; v++) {
             x.strike(v);
         }
-        check.due("17 voters as they were then", Check.passedOver(x, 1), "0");
+        check.due("17 voters as they were then", x.passedOver(1), "0");
     }
 
     private void promise17PassedOverServed() {
-        SharesDesk x = town(40, 4);
+        Desk x = Towns.town(40, 4);
         for (int p = 0; p < 4; p++) {
-            want(x, p, 5, 0, 1);
+            Towns.want(x, p, 5, 0, 1);
         }
-        want(x, 4, 20, 2);
-        want(x, 9, 1, 3);
+        Towns.want(x, 4, 20, 2);
+        Towns.want(x, 9, 1, 3);
         check.due("17 run", x.run(), 5);
         check.due("17 served by four", x.served(0), 4);
         check.due("17 served by none", x.served(2), 0);
         for (int m = 1; m <= 4; m++) {
-            check.due("17 served by m isn't less than m", Check.passedOver(x, m), "0");
+            check.due("17 served by m isn't less than m", x.passedOver(m), "0");
         }
-        check.due("17 raised", Check.raise(x, 1, 9), "9");
+        check.due("17 raised", x.raise(1, 9), "9");
         for (int m = 1; m <= 4; m++) {
-            check.due("17 raised", Check.passedOver(x, m), "0");
+            check.due("17 raised", x.passedOver(m), "0");
         }
     }
 
     private void promise17PassedOverWrong() {
-        SharesDesk x = new SharesDesk();
+        Desk x = new Desk();
         for (int m : new int[] {0, -1, 5, Integer.MIN_VALUE, Integer.MAX_VALUE}) {
-            check.due("17 m " + m, Check.passedOver(x, m), REFUSED);
+            check.due("17 m " + m, x.passedOver(m), REFUSED);
         }
         for (int m = 1; m <= 4; m++) {
-            check.due("17 no voter", Check.passedOver(x, m), "0");
+            check.due("17 no voter", x.passedOver(m), "0");
         }
         x.project(0, 1);
         x.run();
-        check.due("17 no voter, a project", Check.passedOver(x, 1), "0");
+        check.due("17 no voter, a project", x.passedOver(1), "0");
     }
 
     private void promise18Receipt() {
-        SharesDesk x = uneven();
-        check.due("18 emptied", Check.receipt(x, 0), "00 5;01 5;=0.");
-        check.due("18 the rate", Check.receipt(x, 2), "01 7;=3.");
-        check.due("18 another voter", Check.receipt(x, 1), "00 5;01 5;=0.");
-        check.due("18 not there", Check.receipt(x, 4), "");
+        Desk x = Towns.uneven();
+        check.due("18 emptied", x.receipt(0), "00 5;01 5;=0.");
+        check.due("18 the rate", x.receipt(2), "01 7;=3.");
+        check.due("18 another voter", x.receipt(1), "00 5;01 5;=0.");
+        check.due("18 not there", x.receipt(4), "");
         check.due("18 behind the end", x.receipt(2, 8), -1);
         check.due("18 the end", x.receipt(2, 7), '.');
         for (int far : FAR) {
             check.due("18 far voter", x.receipt(far, 0), -1);
             check.due("18 far character", x.receipt(0, far), -1);
         }
-        check.due("18 what it paid nothing for isn't told", Check.receipt(emptied(), 0), "00 5;01 5;=0.");
-        SharesDesk y = town(12, 5);
-        want(y, 11, 2, 0, 1, 2);
-        want(y, 10, 3, 0, 1);
+        check.due("18 what it paid nothing for isn't told", Towns.emptied().receipt(0), "00 5;01 5;=0.");
+        Desk y = Towns.town(12, 5);
+        Towns.want(y, 11, 2, 0, 1, 2);
+        Towns.want(y, 10, 3, 0, 1);
         y.run();
-        check.due("18 fractions", Check.receipt(y, 0), "11 2/3;10 3/2;=7/30.");
-        check.due("18 nothing paid", Check.receipt(y, 4), "=12/5.");
+        check.due("18 fractions", y.receipt(0), "11 2/3;10 3/2;=7/30.");
+        check.due("18 nothing paid", y.receipt(4), "=12/5.");
         y.budget(60);
         y.run();
-        check.due("18 the next result", Check.receipt(y, 0), "11 2/3;10 3/2;=59/6.");
-        Check.raise(y, 1, 2);
-        check.due("18 the next result", Check.receipt(y, 0), "11 2/3;10 3/2;=71/6.");
+        check.due("18 the next result", y.receipt(0), "11 2/3;10 3/2;=59/6.");
+        y.raise(1, 2);
+        check.due("18 the next result", y.receipt(0), "11 2/3;10 3/2;=71/6.");
     }
 
     private void promise18LongReceipt() {
-        SharesDesk x = primes();
+        Desk x = Towns.primes();
         Reference.Fraction left = part(10_000_000, 47);
         StringBuilder text = new StringBuilder();
         for (int i = 0; i < 16; i++) {
             int p = x.chosen(i);
-            text.append(p < 10 ? "0" : "").append(p).append(" 1/").append(COUNTS[p]).append(';');
-            left = left.minus(part(1, COUNTS[p]));
+            text.append(p < 10 ? "0" : "").append(p).append(" 1/").append(Towns.COUNTS[p]).append(';');
+            left = left.minus(part(1, Towns.COUNTS[p]));
         }
         text.append('=').append(left.words()).append('.');
-        check.due("18 long", Check.receipt(x, 0), text.toString());
+        check.due("18 long", x.receipt(0), text.toString());
     }
 }

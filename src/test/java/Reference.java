@@ -5,7 +5,7 @@ import java.util.TreeMap;
 import java.util.TreeSet;
 
 /** The document once more, word by word, over fractions of any length; slow and plain. */
-final class Reference {
+final class Reference implements Answers {
     record Fraction(BigInteger top, BigInteger bottom) implements Comparable<Fraction> {
         static final Fraction ZERO = of(0);
 
@@ -71,7 +71,7 @@ final class Reference {
     int budget = 1;
     Outcome result = new Outcome();
 
-    boolean project(int p, int cost) {
+    public boolean project(int p, int cost) {
         if (p < 0 || p > 15 || cost < 1 || cost > 1_000_000) {
             return false;
         }
@@ -79,11 +79,11 @@ final class Reference {
         return true;
     }
 
-    boolean drop(int p) {
+    public boolean drop(int p) {
         return costs.remove(p) != null;
     }
 
-    boolean budget(int amount) {
+    public boolean budget(int amount) {
         if (amount < 1 || amount > 10_000_000) {
             return false;
         }
@@ -91,7 +91,7 @@ final class Reference {
         return true;
     }
 
-    boolean voter(int v) {
+    public boolean voter(int v) {
         if (v < 0 || v > 47 || voters.containsKey(v)) {
             return false;
         }
@@ -99,11 +99,11 @@ final class Reference {
         return true;
     }
 
-    boolean strike(int v) {
+    public boolean strike(int v) {
         return voters.remove(v) != null;
     }
 
-    boolean approve(int v, int p, boolean yes) {
+    public boolean approve(int v, int p, boolean yes) {
         if (!voters.containsKey(v) || p < 0 || p > 15) {
             return false;
         }
@@ -115,12 +115,12 @@ final class Reference {
         return true;
     }
 
-    int run() {
+    public int run() {
         result = phase(0);
         return result.chosen.size();
     }
 
-    String raise(int step, int most) {
+    public String raise(int step, int most) {
         if (step < 1 || step > 100_000 || most < 0 || most > 100) {
             return "throws.IllegalArgumentException";
         }
@@ -227,19 +227,19 @@ final class Reference {
         return least;
     }
 
-    int chosen(int i) {
+    public int chosen(int i) {
         return i < 0 || i >= result.chosen.size() ? -1 : result.chosen.get(i);
     }
 
-    int spent() {
+    public int spent() {
         return result.spent();
     }
 
-    String purse(int v) {
+    public String purse(int v) {
         return result.voters.containsKey(v) ? result.purses.get(v).words() : "0/0";
     }
 
-    String paid(int v, int p) {
+    public String paid(int v, int p) {
         if (!result.voters.containsKey(v)) {
             return "0/0";
         }
@@ -250,18 +250,18 @@ final class Reference {
         return result.payments.getOrDefault(v * 16 + p, Fraction.ZERO);
     }
 
-    String rate(int p) {
+    public String rate(int p) {
         return result.rates.containsKey(p) ? result.rates.get(p).words() : "0/0";
     }
 
-    String missing(int p) {
+    public String missing(int p) {
         if (!result.costs.containsKey(p) || result.chosen.contains(p)) {
             return "0/0";
         }
         return Fraction.of(result.costs.get(p)).minus(together(result, p)).words();
     }
 
-    int served(int v) {
+    public int served(int v) {
         int count = 0;
         for (int p : result.chosen) {
             if (result.voters.containsKey(v) && result.voters.get(v).contains(p)) {
@@ -271,7 +271,7 @@ final class Reference {
         return count;
     }
 
-    String passedOver(int m) {
+    public String passedOver(int m) {
         if (m < 1 || m > 4) {
             return "throws.IllegalArgumentException";
         }
@@ -307,7 +307,7 @@ final class Reference {
         return group * result.budget >= result.voters.size() * cost;
     }
 
-    String receipt(int v) {
+    public String receipt(int v) {
         if (!result.voters.containsKey(v)) {
             return "";
         }
