@@ -33,6 +33,7 @@ public final class AnswersBoundariesTest {
         test.missingNotThere();
         test.missingLeastAndMost();
         test.missingParts();
+        test.missingLong();
         test.servedNotThere();
         test.servedNoneAndAll();
         test.passedOverSizes();
@@ -362,6 +363,21 @@ public final class AnswersBoundariesTest {
         x.run();
         words("missing", (part, word) -> x.missing(0, part, word), "1/3");
         words("not there", (part, word) -> x.missing(1, part, word), "0/0");
+    }
+
+    /** Voter 0 pays a part of each of 15; what it and a voter who paid nothing have left is too little for the last. */
+    private void missingLong() {
+        check.about("15: A word of how much, of several");
+        Desk x = Towns.town(10_000_000, 47);
+        Reference.Fraction lack = part(1_000_000, 1).minus(part(10_000_000, 47)).minus(part(10_000_000, 47));
+        for (int p = 0; p < 15; p++) {
+            Towns.wantFirst(x, p, 1, Towns.COUNTS[p]);
+            lack = lack.plus(part(1, Towns.COUNTS[p]));
+        }
+        Towns.want(x, 15, 1_000_000, 0, 46);
+        check.due("run", x.run(), 15);
+        check.due("words of the numerator", (lack.top().bitLength() + 31) / 32, 3);
+        words("three words", (part, word) -> x.missing(15, part, word), lack.top(), lack.bottom());
     }
 
     private void servedNotThere() {

@@ -27,36 +27,62 @@ public final class FaceTest {
         "public int SharesDesk.receipt(int,int)",
     };
 
+    private final Check check = new Check();
+    private final TreeSet<String> names = new TreeSet<>();
+
     public static void main(String[] args) {
-        Check check = new Check();
+        FaceTest test = new FaceTest();
+        test.theClass();
+        test.methods();
+        test.constructor();
+        test.nothingElse();
+        test.check.end();
+    }
+
+    private void theClass() {
+        check.about("The public face: public final class SharesDesk");
+        check.due("the class", Modifier.toString(SharesDesk.class.getModifiers()), "public final");
+        check.due("its package", SharesDesk.class.getPackageName(), "");
+        check.due("what it extends", SharesDesk.class.getSuperclass().getSimpleName(), "Object");
+        check.due("what it implements", SharesDesk.class.getInterfaces().length, 0);
+    }
+
+    private void methods() {
+        check.about("The public face: its methods");
         TreeSet<String> shown = new TreeSet<>();
-        TreeSet<String> names = new TreeSet<>();
         for (Method m : SharesDesk.class.getDeclaredMethods()) {
-            if (!Modifier.isPrivate(m.getModifiers())) {
+            if (!Modifier.isPrivate(m.getModifiers()) && !m.isSynthetic()) {
                 shown.add(m.toString());
                 names.add(m.getName());
             }
         }
         check.due("the methods", shown.toString(), new TreeSet<>(Arrays.asList(FACE)).toString());
-        check.due("final", Modifier.isFinal(SharesDesk.class.getModifiers()), true);
+    }
+
+    private void constructor() {
+        check.about("The public face: public SharesDesk()");
         Constructor<?>[] constructors = SharesDesk.class.getDeclaredConstructors();
         check.due("one constructor", constructors.length, 1);
         check.due("the constructor", constructors[0].toString(), "public SharesDesk()");
-        for (Field f : SharesDesk.class.getDeclaredFields()) {
-            check.due("private " + f.getName(), Modifier.isPrivate(f.getModifiers()), true);
-        }
-        noPrivateNamesake(check, SharesDesk.class, names);
-        for (Class<?> inside : SharesDesk.class.getDeclaredClasses()) {
-            check.due("static " + inside.getName(), Modifier.isStatic(inside.getModifiers()), true);
-            noPrivateNamesake(check, inside, names);
-        }
-        check.end();
     }
 
-    private static void noPrivateNamesake(Check check, Class<?> type, TreeSet<String> names) {
+    private void nothingElse() {
+        check.about("LANGUAGE 1: no other public, protected or package-visible member, but for the classes inside");
+        for (Field f : SharesDesk.class.getDeclaredFields()) {
+            check.due("private " + f.getName(), Modifier.isPrivate(f.getModifiers()) || f.isSynthetic(), true);
+        }
+        noPrivateNamesake(SharesDesk.class);
+        for (Class<?> inside : SharesDesk.class.getDeclaredClasses()) {
+            int seen = inside.getModifiers() & (Modifier.PUBLIC | Modifier.PROTECTED);
+            check.due("seen from outside, " + inside.getName(), Modifier.toString(seen), "");
+            noPrivateNamesake(inside);
+        }
+    }
+
+    private void noPrivateNamesake(Class<?> type) {
         for (Method m : type.getDeclaredMethods()) {
-            boolean hidden = type != SharesDesk.class || Modifier.isPrivate(m.getModifiers());
-            check.due("a name of the face again, " + m, hidden && names.contains(m.getName()), false);
+            boolean hidden = Modifier.isPrivate(m.getModifiers()) && !m.isSynthetic();
+            check.due("a private one with a public one's name, " + m, hidden && names.contains(m.getName()), false);
         }
     }
 }

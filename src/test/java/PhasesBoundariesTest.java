@@ -22,6 +22,7 @@ public final class PhasesBoundariesTest {
         test.rateEmptiesSeveral();
         test.rateIsWhatOneHas();
         test.wholeRestsOfManyRounds();
+        test.wholeRestOfOneHighBit();
         test.rateOfAllThereIs();
         test.rateWithEmptyPurses();
         test.roundsNone();
@@ -263,6 +264,23 @@ public final class PhasesBoundariesTest {
             check.due("left of 14 after " + rounds, x.purse(31), 14 - rounds + "/1");
             check.due("the last paid 1", x.paid(31, rounds - 1), "1/1");
         }
+    }
+
+    /**
+     * 32 have a purse of 2^17 and 16 more; they pay 1 in 14 rounds, and a few of them in two others. Over a product of
+     * the counts of those who pay, which is 2^79 then, the whole rest of 2^17 is 2^96: nothing but a fourth word.
+     */
+    private void wholeRestOfOneHighBit() {
+        check.about("Terms: as evenly as their purses allow, a whole rest that is long inside");
+        Desk x = Towns.town(32 * ((1 << 17) + 16), 32);
+        for (int p = 0; p < 16; p++) {
+            int count = p < 14 ? 32 : 4;
+            Towns.wantFirst(x, p, count, count);
+        }
+        check.due("run", x.run(), 16);
+        check.due("left of 2^17 + 16", x.purse(0), "131072/1");
+        check.due("left of one that paid in 14 rounds", x.purse(31), "131074/1");
+        check.due("spent", x.spent(), 14 * 32 + 2 * 4);
     }
 
     private void rateOfAllThereIs() {
