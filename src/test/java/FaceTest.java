@@ -75,6 +75,7 @@ public final class FaceTest {
         for (Class<?> inside : SharesDesk.class.getDeclaredClasses()) {
             int seen = inside.getModifiers() & (Modifier.PUBLIC | Modifier.PROTECTED);
             check.due("seen from outside, " + inside.getName(), Modifier.toString(seen), "");
+            check.due("static, " + inside.getName(), Modifier.isStatic(inside.getModifiers()), true);
             noPrivateNamesake(inside);
         }
     }
